@@ -17,6 +17,10 @@ public final class BoneSteps {
     private static final int PART = 65;
     private static final long WHOLE = 1160290625L;
     private static final long FARTHEST = 1000000000000L;
+    private static final int LEAST_INT = 1 << 31;
+    private static final int MOST_INT = ~LEAST_INT;
+    private static final long LEAST_LONG = 1L << 63;
+    private static final long MOST_LONG = ~LEAST_LONG;
 
     private static final int MOST_BONES = 10;
     private static final int LONGEST_ROW = 5;
@@ -174,6 +178,7 @@ public final class BoneSteps {
         }
         skeleton.tellTurns(row.frames[row.size]);
         row.size++;
+        clips.width = skeleton.size;
         return row.size;
     }
 
@@ -228,7 +233,7 @@ public final class BoneSteps {
         if (first == null || second == null) {
             return BAD;
         }
-        return Clips.likeness(first, second, Integer.MAX_VALUE);
+        return clips.likeness(first, second, MOST_INT);
     }
 
     public int pack(int clip, int m) {
@@ -335,12 +340,12 @@ public final class BoneSteps {
     public int get(int s, int form, int i) {
         Sheet row = findSheet(s);
         if (row == null || !isForm(form)) {
-            return Integer.MIN_VALUE;
+            return LEAST_INT;
         }
         int wrong = row.wrongItem(form, i);
         if (wrong != FINE) {
             finding = wrong;
-            return Integer.MIN_VALUE;
+            return LEAST_INT;
         }
         return row.items[i];
     }
@@ -409,8 +414,7 @@ public final class BoneSteps {
         for (int what = 0; what <= 3; what++) {
             h = 31 * h + count(what);
         }
-        h = skeleton.digestOn(h);
-        return clips.digestOn(h, skeleton.size);
+        return clips.digestOn(skeleton.digestOn(h));
     }
 
     // ---- what the calls share
@@ -433,7 +437,7 @@ public final class BoneSteps {
 
     /** A refusal as a long must not look like a place or a way, so it stands at the least long. */
     private static long asLong(int refusal) {
-        return Long.MIN_VALUE - refusal;
+        return LEAST_LONG - refusal;
     }
 
     private int found(int number) {
@@ -459,20 +463,22 @@ public final class BoneSteps {
         }
 
         static int cosine(int t) {
-            return COSINES[normal(t)];
+            return COSINES[Math.floorMod(t, ROUND)];
         }
 
         static int sine(int t) {
-            return COSINES[normal(t - QUARTER_ROUND)];
+            return COSINES[Math.floorMod(t - QUARTER_ROUND, ROUND)];
         }
 
         static int shortWay(int from, int to) {
-            int way = normal(to - from);
-            return way > HALF_ROUND ? way - ROUND : way;
+            int way = to - from;
+            return way > HALF_ROUND ? way - ROUND : way <= -HALF_ROUND ? way + ROUND : way;
         }
 
+        /** The amount of THE SHORT WAY. */
         static int distance(int from, int to) {
-            return Math.abs(shortWay(from, to));
+            int way = from < to ? to - from : from - to;
+            return way > HALF_ROUND ? ROUND - way : way;
         }
     }
 
@@ -484,6 +490,7 @@ public final class BoneSteps {
         final int length;
         final int low;
         final int spread;
+        final int last;
         int turn;
         long startX;
         long startY;
@@ -499,34 +506,35 @@ public final class BoneSteps {
             this.length = length;
             this.low = low;
             this.spread = spread;
+            this.last = (low + spread) % ROUND;
             this.turn = low;
         }
 
         boolean allows(int t) {
-            return Turns.normal(t - low) <= spread;
+            int past = t < low ? t + ROUND - low : t - low;
+            return past <= spread;
         }
 
         /** The least number within LIMITS: they hold 0 where they go round past 35. */
         int leastTurn() {
-            return low + spread < ROUND ? low : 0;
+            return last < low ? 0 : low;
         }
 
         int intoLimits(int t) {
             if (allows(t)) {
-                return Turns.normal(t);
+                return t;
             }
-            int last = Turns.normal(low + spread);
             return Turns.distance(t, low) <= Turns.distance(t, last) ? low : last;
         }
 
         int blended(int first, int second, int w) {
-            return intoLimits(first + Turns.shortWay(first, second) * w / 100);
+            return intoLimits(Turns.normal(first + Turns.shortWay(first, second) * w / 100));
         }
 
         /** Takes a TURN INTO LIMITS: 1 if it was not within, else 0. */
         int takeTurn(int t) {
             turn = intoLimits(t);
-            return allows(t) ? 0 : 1;
+            return turn == t ? 0 : 1;
         }
 
         /** The PARENT must have its place already; the division by 65 leaves no rest in a row of 5. */
@@ -624,7 +632,9 @@ public final class BoneSteps {
             long x = held.endX;
             long y = held.endY;
             place();
-            moveRoot(rootX + x - held.endX, rootY + y - held.endY);
+            rootX += x - held.endX;
+            rootY += y - held.endY;
+            place();
         }
 
         void tellTurns(int[] frame) {
@@ -652,7 +662,8 @@ public final class BoneSteps {
         int addDifference(int[] more, int[] less) {
             int outside = 0;
             for (int b = 0; b < size; b++) {
-                outside += bones[b].takeTurn(bones[b].turn + Turns.shortWay(less[b], more[b]));
+                int way = Turns.shortWay(less[b], more[b]);
+                outside += bones[b].takeTurn(Turns.normal(bones[b].turn + way));
             }
             settle();
             return outside;
@@ -677,7 +688,7 @@ public final class BoneSteps {
             }
             int bestParent = parent.turn;
             int bestTip = tip.turn;
-            long least = Long.MAX_VALUE;
+            long least = MOST_LONG;
             for (int t = 0; t < ROUND; t++) {
                 if (parent.allows(t)) {
                     parent.turn = t;
@@ -728,7 +739,7 @@ public final class BoneSteps {
         }
     }
 
-    /** A row of FRAMES: of each a row of TURNS, 0 where there is no BONE. */
+    /** A row of FRAMES: of each a row of TURNS, made once and used again. */
     private static final class Clip {
         final int[][] frames = new int[MOST_FRAMES][MOST_BONES];
         int size;
@@ -737,6 +748,8 @@ public final class BoneSteps {
     /** All CLIPS. */
     private static final class Clips {
         private final Clip[] clips = new Clip[MOST_CLIPS];
+        /** How many BONES the FRAMES have: all alike, as no BONE comes while there are FRAMES. */
+        int width;
 
         Clips() {
             for (int c = 0; c < MOST_CLIPS; c++) {
@@ -749,8 +762,10 @@ public final class BoneSteps {
         }
 
         int[] findFrame(int clip, int f) {
-            Clip row = find(clip);
-            return row != null && isIn(f, 0, row.size - 1) ? row.frames[f] : null;
+            if (clip < 0 || clip >= MOST_CLIPS || f < 0 || f >= clips[clip].size) {
+                return null;
+            }
+            return clips[clip].frames[f];
         }
 
         int[] findSlot(int slot) {
@@ -766,19 +781,19 @@ public final class BoneSteps {
         }
 
         /** LIKENESS, or some number above enough as soon as it is known to be above. */
-        static int likeness(int[] first, int[] second, int enough) {
+        int likeness(int[] first, int[] second, int enough) {
             int sum = 0;
-            for (int b = 0; b < MOST_BONES && sum <= enough; b++) {
+            for (int b = 0; b < width && sum <= enough; b++) {
                 sum += Turns.distance(first[b], second[b]);
             }
             return sum;
         }
 
-        long digestOn(long before, int bones) {
+        long digestOn(long before) {
             long h = before;
             for (int c = 0; c < MOST_CLIPS; c++) {
                 for (int f = 0; f < clips[c].size; f++) {
-                    for (int b = 0; b < bones; b++) {
+                    for (int b = 0; b < width; b++) {
                         h = 31 * h + clips[c].frames[f][b];
                     }
                 }
@@ -835,7 +850,7 @@ public final class BoneSteps {
 
     /** THE GRAPH and the latest WALK; a slot is 30 times a CLIP and the number of a FRAME in it. */
     private static final class Graph {
-        private static final int UNREACHED = Integer.MAX_VALUE;
+        private static final int UNREACHED = MOST_INT;
 
         int join = 3;
         int walkCost = NONE;
@@ -864,7 +879,7 @@ public final class BoneSteps {
         private boolean isJoined(Clips clips, int[] frame, int slot) {
             for (int other = 0; other < SLOTS; other++) {
                 int[] second = clips.findSlot(other);
-                if (second != null && other != slot && Clips.likeness(frame, second, join) <= join) {
+                if (second != null && other != slot && clips.likeness(frame, second, join) <= join) {
                     return true;
                 }
             }
@@ -937,7 +952,7 @@ public final class BoneSteps {
             if (first == null || second == null) {
                 return NONE;
             }
-            int likeness = Clips.likeness(first, second, join);
+            int likeness = clips.likeness(first, second, join);
             return likeness <= join ? 2 + likeness : NONE;
         }
 

@@ -73,6 +73,11 @@ public final class BonesTest {
         due.is("11, NOT first", x.bone(0, 7, 8, 9), -3);
         due.is("count(0)", x.count(0), 10);
         due.is("LOW at first", x.about(1, 4), 35);
+        x = new BoneSteps();
+        x.root(7, -9);
+        x.bone(-1, 1, 9, 0);
+        due.is("X at once", x.end(0, 0), 7);
+        due.is("Y at once", x.end(0, 1), WHOLE - 9);
     }
 
     private static void boneRefused() {

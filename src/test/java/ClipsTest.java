@@ -387,5 +387,14 @@ public final class ClipsTest {
         due.is("the POSE stays", x.about(0, 4), 20);
         due.is("an empty CLIP", x.thin(3, 0), 0);
         keysAre("an empty CLIP", x);
+        x = clipOf(0);
+        for (int f = 1; f < 30; f++) {
+            x.turn(0, f % 2 * 9);
+            x.frame(0);
+        }
+        due.is("all are KEYS", x.thin(0, 0), 0);
+        due.is("count(4)", x.count(4), 30);
+        due.is("key(29)", x.key(29), 29);
+        due.is("at(0, 29, 0)", x.at(0, 29, 0), 9);
     }
 }

@@ -69,6 +69,13 @@ public final class GoalsTest {
         // 35 and 1 are alike far from the left, 0 is the farthest: the least number is not LOW.
         due.is("LIMITS past 35", x.two(0, -MOST, 0), MOST + 63 * (WHOLE / 65));
         due.is("the least number, not LOW", x.about(0, 4), 1);
+        // TURNS 0 and 1 end at 65, 0 and 63, 16: alike far from 64, 8.
+        due.is("0 and 1", x.two(0, 64 * (WHOLE / 65), 8 * (WHOLE / 65)), 8 * (WHOLE / 65));
+        due.is("the least number", x.about(0, 4), 0);
+        x = new BoneSteps();
+        x.bone(-1, 1, 5, 0);
+        due.is("a SPREAD of 0", x.two(0, WHOLE, 0), 52 * (WHOLE / 65));
+        due.is("LOW alone", x.about(0, 4), 5);
     }
 
     private static void twoRefused() {
@@ -161,6 +168,12 @@ public final class GoalsTest {
         x.turn(0, 0);
         due.is("LIMITS past 35", x.rounds(0, -MOST, 0, 1), MOST + 63 * (WHOLE / 65));
         due.is("the least number, not LOW", x.about(0, 4), 1);
+        x.turn(0, 35);
+        due.is("0 and 1", x.rounds(0, 64 * (WHOLE / 65), 8 * (WHOLE / 65), 1), 8 * (WHOLE / 65));
+        due.is("the least number", x.about(0, 4), 0);
+        x.turn(0, 1);
+        due.is("its own is as good", x.rounds(0, 64 * (WHOLE / 65), 8 * (WHOLE / 65), 1), 8 * (WHOLE / 65));
+        due.is("its own", x.about(0, 4), 1);
     }
 
     private static void roundsRefused() {

@@ -78,6 +78,16 @@ public final class GraphTest {
         due.is("the same in another CLIP", x.live(), 4);
         x.clear(3);
         due.is("gone", x.live(), 0);
+        x.turn(0, 33);
+        for (int f = 0; f < 29; f++) {
+            frames(x, 1, f);
+        }
+        x.clear(0);
+        x.clear(5);
+        due.is("a row of 29", x.live(), 0);
+        frames(x, 1, 33);
+        frames(x, 4, 33);
+        due.is("the 30th is joined", x.live(), 31);
     }
 
     private static void isLive() {
@@ -161,6 +171,17 @@ public final class GraphTest {
         x.join(1);
         due.is("joined", x.walk(0, 29, 1, 0), 3);
         due.is("from end to end", x.walk(0, 0, 1, 1), 29 + 3 + 1);
+        x = oneBone();
+        x.join(0);
+        for (int n = 0; n < 180; n++) {
+            frames(x, n / 30, n % 30 + (n / 30 == 5 ? 6 : 0));
+        }
+        // 35 steps to a next one and one join; CLIP 0, of the lesser numbers, is left at its end.
+        due.is("180 FRAMES", x.walk(0, 0, 5, 29), 37);
+        due.is("step(29)", x.step(29), 29);
+        due.is("step(30)", x.step(30), 173);
+        due.is("step(36)", x.step(36), 179);
+        due.is("step(37)", x.step(37), -2);
     }
 
     private static void walkRefused() {

@@ -313,5 +313,16 @@ public final class SheetsTest {
         x.pack(5, 0);
         x.walk(5, 0, 5, 1);
         due.is("SHEETS, KEYS and walks are not in it", x.digest(), h);
+        x.clear(5);
+        x.clear(2);
+        x.frame(0);
+        x.show(0, 0);
+        long before = x.digest();
+        x.clear(0);
+        due.is("CLIP 0 is in it", before == x.digest() ? 1 : 0, 0);
+        x.turn(1, 9);
+        x.frame(0);
+        x.turn(1, 8);
+        due.is("TURNS of CLIP 0 are in it", x.digest(), before + 1);
     }
 }
