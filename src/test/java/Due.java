@@ -16,12 +16,25 @@ final class Due {
         promise = "promise " + number + " (" + name + "): ";
     }
 
+    /** What follows is asked of one sentence; section 0 are the terms. */
+    void sentence(int section, String words) {
+        promise = (section == 0 ? "terms" : "promise " + section) + ", '" + words + "': ";
+    }
+
     void is(String call, long got, long want) {
         asked++;
         if (got != want) {
             wrong++;
             System.out.println(test + ": " + promise + call + " answered " + got + ", due is " + want);
         }
+    }
+
+    void isTrue(String what, boolean holds) {
+        is(what + " (1: it holds)", holds ? 1 : 0, 1);
+    }
+
+    int asked() {
+        return asked;
     }
 
     boolean isRight() {
