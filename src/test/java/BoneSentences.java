@@ -545,7 +545,8 @@ final class BoneSentences {
         due.is("it stands at its PARENT at once", x.end(2, 1), 2 * Scene.WHOLE);
         x.lock(2);
         x.bone(0, 5, 3, 35);
-        due.is("a LOCKED BONE stays where it is", x.end(2, 1), 2 * Scene.WHOLE);
+        due.is("a LOCKED BONE stays LOCKED", x.count(2), 2);
+        due.is("it stays where it is", x.end(2, 1), 2 * Scene.WHOLE);
         due.is("so does THE ROOT", x.end(-1, 0), 7);
     }
 

@@ -1,3 +1,5 @@
+import java.util.Arrays;
+
 /** Sentences on BLENDING, ADDING, CLIPS, LIKENESS and PACKING: of the terms, and promises 11 to 20. */
 final class ClipSentences {
     static void tell(Sentences all) {
@@ -75,7 +77,7 @@ final class ClipSentences {
     /** Packs a CLIP of one BONE's TURNS. */
     private static void packs(Due due, int m, int[] turns, int... keys) {
         BoneSteps x = Scene.clipOf(turns);
-        String call = java.util.Arrays.toString(turns) + " with " + m;
+        String call = Arrays.toString(turns) + " with " + m;
         due.is(call, x.pack(0, m), keys.length);
         keysAre(due, call, x, keys);
     }
@@ -180,7 +182,6 @@ final class ClipSentences {
             x.add(0, 0, 1);
             due.is("10 less than " + row[0], x.about(0, 4), 30);
         }
-        // 18 more than 10 is 28, as near to LOW 10 as to the last one, 10.
         BoneSteps x = new BoneSteps();
         x.bone(-1, 1, 10, 0);
         x.bone(-1, 1, 0, 35);
@@ -418,6 +419,10 @@ final class ClipSentences {
         due.is("the other stays", x.at(2, 0, 0), 5);
         due.is("count(1)", x.count(1), 1);
         due.is("the POSE stays", x.about(0, 4), 5);
+        x.frame(1);
+        due.is("one again", x.pack(1, 0), 1);
+        due.is("none of the old ones is back", x.at(1, 1, 0), -2);
+        due.is("the new one", x.at(1, 0, 0), 5);
     }
 
     private static void clearBad(Due due) {
@@ -623,6 +628,18 @@ final class ClipSentences {
         due.is("there is room again", x.frame(0), 3);
         x = Scene.clipOf(9);
         due.is("one stays one", x.thin(0, 18), 0);
+        thinOfThirtyKeys(due);
+    }
+
+    private static void thinOfThirtyKeys(Due due) {
+        BoneSteps x = Scene.oneBone();
+        for (int f = 0; f < 30; f++) {
+            Scene.frames(x, 0, f % 2 == 0 ? 0 : 18);
+        }
+        due.is("30 KEYS", x.thin(0, 0), 0);
+        due.is("key(29)", x.key(29), 29);
+        due.is("the last one", x.at(0, 29, 0), 18);
+        due.is("no room", x.frame(0), -4);
     }
 
     private static void thinBad(Due due) {

@@ -1,3 +1,5 @@
+import java.util.Arrays;
+
 /** Sentences on GOALS: of the terms, and promises 9 and 10. */
 final class GoalSentences {
     private static final long WHOLE = Scene.WHOLE;
@@ -88,7 +90,7 @@ final class GoalSentences {
                     }
                 }
                 BoneSteps x = row(numbers);
-                String call = "LIMITS " + java.util.Arrays.toString(row) + " to " + goal[0] + ", " + goal[1];
+                String call = "LIMITS " + Arrays.toString(row) + " to " + goal[0] + ", " + goal[1];
                 due.is(call, x.two(1, goalX, goalY), least);
                 turnsAre(due, call, x, parent, tip);
             }
@@ -233,7 +235,7 @@ final class GoalSentences {
                 tryAll(tried, 1, 2, row[2], row[3], goalX, goalY);
                 tryAll(tried, 0, 2, row[0], row[1], goalX, goalY);
                 BoneSteps x = row(numbers);
-                String call = "LIMITS " + java.util.Arrays.toString(row) + " to " + goal[0] + ", " + goal[1];
+                String call = "LIMITS " + Arrays.toString(row) + " to " + goal[0] + ", " + goal[1];
                 due.is(call, x.rounds(2, goalX, goalY, 1), tried.far(2, goalX, goalY));
                 turnsAre(due, call, x, tried.about(0, 4), tried.about(1, 4), tried.about(2, 4));
             }

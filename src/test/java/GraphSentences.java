@@ -198,18 +198,18 @@ final class GraphSentences {
         Scene.frames(x, 2, 6);
         due.is("over 31 or 32", x.walk(3, 0, 2, 0), 10);
         stepsAre(due, "31", x, 90, 31, 60);
-        // Of 91, 0 and 30, 91 behind 90 the first step decides, though 0 is less than 91.
+        // 90, 30, 150 by 4 and 4, or 90, 91, 0, 150 by 1, 3 and 4: the first step decides, though 0 is the least.
         x = Scene.oneBone();
-        Scene.frames(x, 3, 0, 1);
-        Scene.frames(x, 1, 0);
-        Scene.frames(x, 0, 1);
-        Scene.frames(x, 2, 4);
-        due.is("over 91 alone", x.walk(3, 0, 2, 0), 6);
-        stepsAre(due, "over 91 alone", x, 90, 91, 60);
-        x.clear(2);
-        Scene.frames(x, 2, 1);
-        due.is("straight or over 91", x.walk(3, 0, 2, 0), 3);
-        stepsAre(due, "60 before 91", x, 90, 60);
+        x.join(2);
+        Scene.frames(x, 0, 6);
+        Scene.frames(x, 1, 2);
+        Scene.frames(x, 3, 0, 7);
+        Scene.frames(x, 5, 4);
+        due.is("over 30 or over 91 and 0", x.walk(3, 0, 5, 0), 8);
+        stepsAre(due, "30", x, 90, 30, 150);
+        x.clear(1);
+        due.is("over 91 and 0 alone", x.walk(3, 0, 5, 0), 8);
+        stepsAre(due, "91 and 0", x, 90, 91, 0, 150);
     }
 
     private static void clipsOneBehindTheOther(Due due) {
@@ -221,18 +221,13 @@ final class GraphSentences {
         Scene.frames(x, 4, 6);
         due.is("over either", x.walk(5, 0, 4, 0), 10);
         stepsAre(due, "over CLIP 1", x, 150, 32, 120);
-        // FRAME 29 of CLIP 0 against FRAME 0 of CLIP 1.
+        // FRAME 29 of CLIP 0 is number 29, FRAME 0 of CLIP 1 number 30, both of TURN 29.
         x = line();
         Scene.frames(x, 1, 29);
         Scene.frames(x, 2, 31);
-        Scene.frames(x, 3, 27, 30);
         x.join(2);
-        x.clear(3);
-        Scene.frames(x, 3, 33);
-        due.is("from 29 in CLIP 2's neighbour", x.walk(3, 0, 1, 0), 8);
-        stepsAre(due, "from CLIP 3", x, 90, 60, 30);
-        due.is("from CLIP 2 to 27 in CLIP 0, over 29 of either", x.walk(2, 0, 0, 27), 8);
-        stepsAre(due, "over 29, not 30", x, 60, 29, 27);
+        due.is("to TURN 27 over either", x.walk(2, 0, 0, 27), 8);
+        stepsAre(due, "over CLIP 0", x, 60, 29, 27);
     }
 
     // ---- promises
@@ -360,6 +355,7 @@ final class GraphSentences {
         x.clear(0);
         x.join(50);
         stepsAre(due, "as it was told, though its FRAMES went", x, 1, 2);
+        due.is("count(5), too", x.count(5), 1);
     }
 
     private static void stepBad(Due due) {

@@ -1,5 +1,7 @@
 import java.util.ArrayList;
+import java.util.LinkedHashMap;
 import java.util.List;
+import java.util.Map;
 import java.util.function.Supplier;
 import java.util.function.ToLongFunction;
 
@@ -9,6 +11,7 @@ final class Scene {
     static final long PART = WHOLE / 65;
     static final long MOST = 1000000000000L;
     static final int LEAST_INT = Integer.MIN_VALUE;
+    static final String FINDING = "finding";
 
     /** A call with one number left open. */
     interface Ask {
@@ -89,30 +92,56 @@ final class Scene {
         return x;
     }
 
-    /** All that can be seen; it makes FINDINGS, so count() 6 is not in it. */
-    static List<Long> look(BoneSteps x) {
-        List<Long> seen = new ArrayList<>();
-        seen.add(x.digest());
-        seen.add(x.end(-1, 0));
-        seen.add(x.end(-1, 1));
-        for (int what = 0; what < 6; what++) {
-            seen.add((long) x.count(what));
-        }
-        for (int b = 0; b < x.count(0); b++) {
-            for (int what = 0; what < 5; what++) {
-                seen.add((long) x.about(b, what));
-            }
-        }
+    /** All that can be seen, by parts; count() 6 comes first, as the look itself makes FINDINGS. */
+    static Map<String, List<Long>> look(BoneSteps x) {
+        Map<String, List<Long>> parts = new LinkedHashMap<>();
+        parts.put(FINDING, List.of((long) x.count(6)));
+        parts.put("digest", List.of(x.digest()));
+        parts.put("root", List.of(x.end(-1, 0), x.end(-1, 1)));
+        parts.put("lock", List.of((long) x.count(2)));
+        parts.put("join", List.of((long) x.count(3)));
+        lookAtBones(x, parts);
+        parts.put("frames", lookAtFrames(x));
+        List<Long> keys = new ArrayList<>(List.of((long) x.count(4)));
+        List<Long> walk = new ArrayList<>(List.of((long) x.count(5)));
         for (int k = 0; k < 8; k++) {
-            seen.add((long) x.key(k));
-            seen.add((long) x.step(k));
+            keys.add((long) x.key(k));
+            walk.add((long) x.step(k));
         }
-        for (int s = 0; s < 4; s++) {
-            for (int n = 0; n < 18; n++) {
-                seen.add((long) x.get(s, n % 3, n / 3));
+        parts.put("keys", keys);
+        parts.put("walk", walk);
+        List<Long> items = new ArrayList<>();
+        for (int n = 0; n < 72; n++) {
+            items.add((long) x.get(n / 18, n % 3, n % 18 / 3));
+        }
+        parts.put("sheets", items);
+        return parts;
+    }
+
+    private static void lookAtBones(BoneSteps x, Map<String, List<Long>> parts) {
+        int size = x.count(0);
+        List<Long> bones = new ArrayList<>(List.of((long) size));
+        List<Long> pose = new ArrayList<>();
+        for (int b = 0; b < size; b++) {
+            for (int what = 0; what < 4; what++) {
+                bones.add((long) x.about(b, what));
+            }
+            pose.add((long) x.about(b, 4));
+        }
+        parts.put("bones", bones);
+        parts.put("pose", pose);
+    }
+
+    private static List<Long> lookAtFrames(BoneSteps x) {
+        List<Long> frames = new ArrayList<>(List.of((long) x.count(1)));
+        int[] clips = {0, 1, 5};
+        for (int clip : clips) {
+            for (int f = 0; f < 6; f++) {
+                frames.add((long) x.at(clip, f, 0));
+                frames.add((long) x.at(clip, f, 1));
             }
         }
-        return seen;
+        return frames;
     }
 
     static void refuses(Due due, String call, Supplier<BoneSteps> scene, ToLongFunction<BoneSteps> ask, long answer) {
@@ -125,8 +154,9 @@ final class Scene {
             int finding) {
         BoneSteps x = scene.get();
         due.is(call, ask.applyAsLong(x), answer);
-        due.is(call + ", then count(6)", x.count(6), finding);
-        due.isTrue(call + " changes nothing else", look(x).equals(look(scene.get())));
+        Map<String, List<Long>> want = look(scene.get());
+        want.put(FINDING, List.of((long) finding));
+        look(x).forEach((part, seen) -> due.isTrue(call + " leaves the part " + part, seen.equals(want.get(part))));
     }
 
     static void bad(Due due, String call, Ask ask, int... wrong) {

@@ -1,3 +1,8 @@
+import java.math.BigInteger;
+import java.util.ArrayList;
+import java.util.List;
+import java.util.function.ToLongFunction;
+
 /** Sentences on SHEETS, FINDINGS and refusals: of the terms, and promises 26 to 34. */
 final class SheetSentences {
     private static final int LEAST = Scene.LEAST_INT;
@@ -109,8 +114,8 @@ final class SheetSentences {
         return x;
     }
 
-    private static void finds(Due due, String call, java.util.function.ToLongFunction<BoneSteps> ask, int finding) {
-        Scene.refuses(due, call, Scene::full, ask, finding);
+    private static void refuses(Due due, String call, ToLongFunction<BoneSteps> ask, int answer) {
+        Scene.refuses(due, call, Scene::full, ask, answer);
     }
 
     // ---- terms
@@ -188,13 +193,13 @@ final class SheetSentences {
     }
 
     private static void findingsChangeCount6(Due due) {
-        finds(due, "NULL", x -> x.pose(3, 0), NULL);
-        finds(due, "INDEX", x -> x.pose(2, 2), INDEX);
-        finds(due, "CAST", x -> x.put(2, 0, 1, 99), CAST);
-        finds(due, "STORE", x -> x.copy(2, 0, 1, 0, 3), STORE);
-        finds(due, "SIZE", x -> x.sheet(2, 2, -1), SIZE);
-        finds(due, "INDEX of copy", x -> x.copy(2, 1, 2, 2, 4), INDEX);
-        finds(due, "INDEX of write", x -> x.write(2, 2), INDEX);
+        refuses(due, "NULL", x -> x.pose(3, 0), NULL);
+        refuses(due, "INDEX", x -> x.pose(2, 2), INDEX);
+        refuses(due, "CAST", x -> x.put(2, 0, 1, 99), CAST);
+        refuses(due, "STORE", x -> x.copy(2, 0, 1, 0, 3), STORE);
+        refuses(due, "SIZE", x -> x.sheet(2, 2, -1), SIZE);
+        refuses(due, "INDEX of copy", x -> x.copy(2, 1, 2, 2, 4), INDEX);
+        refuses(due, "INDEX of write", x -> x.write(2, 2), INDEX);
         Scene.refuses(due, "LOCKED", Scene::locked, x -> x.pose(2, 2), INDEX);
     }
 
@@ -274,13 +279,13 @@ final class SheetSentences {
     }
 
     private static void refusalsChangeNothing(Due due) {
-        finds(due, "BAD", x -> x.blend(0, 0, 101, 1023), -2);
-        finds(due, "NOT", x -> x.turn(2, 3), -3);
-        finds(due, "NOT of bone()", x -> x.bone(3, 1, 0, 35), -3);
+        refuses(due, "BAD", x -> x.blend(0, 0, 101, 1023), -2);
+        refuses(due, "NOT", x -> x.turn(2, 3), -3);
+        refuses(due, "NOT of bone()", x -> x.bone(3, 1, 0, 35), -3);
         Scene.refuses(due, "NOT of root()", Scene::locked, x -> x.root(1, 1), -3);
         Scene.refuses(due, "FULL", () -> Scene.fan(10), x -> x.bone(3, 1, 0, 35), -4);
-        finds(due, "BAD of walk()", x -> x.walk(0, 0, 5, 3), -2);
-        finds(due, "BAD of thin()", x -> x.thin(0, 19), -2);
+        refuses(due, "BAD of walk()", x -> x.walk(0, 0, 5, 3), -2);
+        refuses(due, "BAD of thin()", x -> x.thin(0, 19), -2);
         BoneSteps x = Scene.full();
         x.lose(3);
         due.is("BAD", x.put(4, 0, 0, 0), -2);
@@ -355,9 +360,9 @@ final class SheetSentences {
     }
 
     private static void sheetSize(Due due) {
-        finds(due, "-1 items", x -> x.sheet(1, 2, -1), SIZE);
-        finds(due, "the least int", x -> x.sheet(1, 2, LEAST), SIZE);
-        finds(due, "of a LOST one", x -> x.sheet(3, 2, -1), SIZE);
+        refuses(due, "-1 items", x -> x.sheet(1, 2, -1), SIZE);
+        refuses(due, "the least int", x -> x.sheet(1, 2, LEAST), SIZE);
+        refuses(due, "of a LOST one", x -> x.sheet(3, 2, -1), SIZE);
     }
 
     private static void loseTells(Due due) {
@@ -375,7 +380,7 @@ final class SheetSentences {
     }
 
     private static void loseNull(Due due) {
-        finds(due, "LOST at first", x -> x.lose(3), NULL);
+        refuses(due, "LOST at first", x -> x.lose(3), NULL);
         BoneSteps x = Scene.full();
         x.lose(0);
         due.is("LOST already", x.lose(0), NULL);
@@ -408,17 +413,17 @@ final class SheetSentences {
     private static void putNull(Due due) {
         for (int form = 0; form < 3; form++) {
             int chosen = form;
-            finds(due, "as FORM " + form, x -> x.put(3, chosen, 0, 9), NULL);
-            finds(due, "no such item", x -> x.put(3, chosen, -1, 9), NULL);
+            refuses(due, "as FORM " + form, x -> x.put(3, chosen, 0, 9), NULL);
+            refuses(due, "no such item", x -> x.put(3, chosen, -1, 9), NULL);
         }
     }
 
     private static void putCast(Due due) {
-        finds(due, "bytes as shorts", x -> x.put(0, 1, 1, 9), CAST);
-        finds(due, "bytes as ints", x -> x.put(0, 2, 1, 9), CAST);
-        finds(due, "shorts as bytes", x -> x.put(1, 0, 1, 9), CAST);
-        finds(due, "ints as shorts", x -> x.put(2, 1, 1, 9), CAST);
-        finds(due, "no such item", x -> x.put(2, 1, 5, 9), CAST);
+        refuses(due, "bytes as shorts", x -> x.put(0, 1, 1, 9), CAST);
+        refuses(due, "bytes as ints", x -> x.put(0, 2, 1, 9), CAST);
+        refuses(due, "shorts as bytes", x -> x.put(1, 0, 1, 9), CAST);
+        refuses(due, "ints as shorts", x -> x.put(2, 1, 1, 9), CAST);
+        refuses(due, "no such item", x -> x.put(2, 1, 5, 9), CAST);
     }
 
     private static void putIndex(Due due) {
@@ -426,7 +431,7 @@ final class SheetSentences {
         for (int s = 0; s < 3; s++) {
             int sheet = s;
             for (int i : Scene.outside(0, sizes[s] - 1)) {
-                finds(due, "SHEET " + s + ", item " + i, x -> x.put(sheet, sheet, i, 9), INDEX);
+                refuses(due, "SHEET " + s + ", item " + i, x -> x.put(sheet, sheet, i, 9), INDEX);
             }
             due.is("the last item", Scene.full().put(s, s, sizes[s] - 1, 9), 1);
         }
@@ -508,19 +513,19 @@ final class SheetSentences {
     }
 
     private static void copyNull(Due due) {
-        finds(due, "s", x -> x.copy(3, 0, 0, 0, 1), NULL);
-        finds(due, "t", x -> x.copy(0, 0, 3, 0, 1), NULL);
-        finds(due, "both", x -> x.copy(3, 0, 3, 0, 0), NULL);
-        finds(due, "s, no such items", x -> x.copy(3, -1, 0, 9, 99), NULL);
-        finds(due, "t, no such items", x -> x.copy(0, -1, 3, 9, 99), NULL);
-        finds(due, "t, of ints", x -> x.copy(2, 0, 3, 0, 0), NULL);
+        refuses(due, "s", x -> x.copy(3, 0, 0, 0, 1), NULL);
+        refuses(due, "t", x -> x.copy(0, 0, 3, 0, 1), NULL);
+        refuses(due, "both", x -> x.copy(3, 0, 3, 0, 0), NULL);
+        refuses(due, "s, no such items", x -> x.copy(3, -1, 0, 9, 99), NULL);
+        refuses(due, "t, no such items", x -> x.copy(0, -1, 3, 9, 99), NULL);
+        refuses(due, "t, of ints", x -> x.copy(2, 0, 3, 0, 0), NULL);
     }
 
     private static void copyStore(Due due) {
-        finds(due, "bytes to shorts", x -> x.copy(0, 0, 1, 0, 1), STORE);
-        finds(due, "ints to bytes", x -> x.copy(2, 0, 0, 0, 1), STORE);
-        finds(due, "none of them", x -> x.copy(1, 0, 2, 0, 0), STORE);
-        finds(due, "no such items", x -> x.copy(1, -1, 2, 99, MOST_INT), STORE);
+        refuses(due, "bytes to shorts", x -> x.copy(0, 0, 1, 0, 1), STORE);
+        refuses(due, "ints to bytes", x -> x.copy(2, 0, 0, 0, 1), STORE);
+        refuses(due, "none of them", x -> x.copy(1, 0, 2, 0, 0), STORE);
+        refuses(due, "no such items", x -> x.copy(1, -1, 2, 99, MOST_INT), STORE);
     }
 
     private static void copyIndex(Due due) {
@@ -533,7 +538,7 @@ final class SheetSentences {
         };
         for (int[] row : rows) {
             String call = "from " + row[0] + " to " + row[1] + ", " + row[2];
-            finds(due, call, x -> x.copy(2, row[0], 2, row[1], row[2]), INDEX);
+            refuses(due, call, x -> x.copy(2, row[0], 2, row[1], row[2]), INDEX);
         }
         BoneSteps x = counting(0, 5);
         x.sheet(1, 0, 3);
@@ -609,8 +614,8 @@ final class SheetSentences {
     }
 
     private static void poseNull(Due due) {
-        finds(due, "LOST", x -> x.pose(3, 0), NULL);
-        finds(due, "LOST, no such item", x -> x.pose(3, -1), NULL);
+        refuses(due, "LOST", x -> x.pose(3, 0), NULL);
+        refuses(due, "LOST, no such item", x -> x.pose(3, -1), NULL);
         Scene.refuses(due, "without BONES", BoneSteps::new, x -> x.pose(0, 0), NULL);
     }
 
@@ -618,7 +623,7 @@ final class SheetSentences {
         // The scene has 4 BONES; SHEETS 0, 1 and 2 have 3, 4 and 5 items.
         int[][] rows = {{0, 0}, {1, 1}, {2, 2}, {2, 5}, {2, -1}, {1, -1}, {2, MOST_INT}, {2, LEAST}, {2, MOST_INT - 3}};
         for (int[] row : rows) {
-            finds(due, "pose(" + row[0] + ", " + row[1] + ")", x -> x.pose(row[0], row[1]), INDEX);
+            refuses(due, "pose(" + row[0] + ", " + row[1] + ")", x -> x.pose(row[0], row[1]), INDEX);
         }
         due.isTrue("just so many", Scene.full().pose(1, 0) >= 0);
         due.isTrue("just so many at the end", Scene.full().pose(2, 1) >= 0);
@@ -649,15 +654,15 @@ final class SheetSentences {
     }
 
     private static void writeNull(Due due) {
-        finds(due, "LOST", x -> x.write(3, 0), NULL);
-        finds(due, "LOST, no such item", x -> x.write(3, 99), NULL);
+        refuses(due, "LOST", x -> x.write(3, 0), NULL);
+        refuses(due, "LOST, no such item", x -> x.write(3, 99), NULL);
         Scene.refuses(due, "without BONES", BoneSteps::new, x -> x.write(0, 0), NULL);
     }
 
     private static void writeIndex(Due due) {
         int[][] rows = {{0, 0}, {1, 1}, {2, 2}, {2, 5}, {2, -1}, {1, -1}, {2, MOST_INT}, {2, LEAST}, {2, MOST_INT - 3}};
         for (int[] row : rows) {
-            finds(due, "write(" + row[0] + ", " + row[1] + ")", x -> x.write(row[0], row[1]), INDEX);
+            refuses(due, "write(" + row[0] + ", " + row[1] + ")", x -> x.write(row[0], row[1]), INDEX);
         }
         due.is("just so many", Scene.full().write(1, 0), 4);
         due.is("just so many at the end", Scene.full().write(2, 1), 4);
@@ -808,8 +813,8 @@ final class SheetSentences {
 
     private static void digestWraps(Due due) {
         BoneSteps x = Scene.oneBone();
-        java.math.BigInteger h = java.math.BigInteger.valueOf(17);
-        java.util.List<Long> parts = new java.util.ArrayList<>();
+        BigInteger h = BigInteger.valueOf(17);
+        List<Long> parts = new ArrayList<>();
         for (int n = 0; n < 180; n++) {
             Scene.frames(x, n / 30, n % 36);
         }
@@ -823,7 +828,7 @@ final class SheetSentences {
             parts.add((long) (n % 36));
         }
         for (long part : parts) {
-            h = h.multiply(java.math.BigInteger.valueOf(31)).add(java.math.BigInteger.valueOf(part));
+            h = h.multiply(BigInteger.valueOf(31)).add(BigInteger.valueOf(part));
         }
         due.is("180 FRAMES", x.digest(), h.longValue());
         due.isTrue("it has wrapped", h.bitLength() > 64);
