@@ -66,20 +66,12 @@ final class ClipSentences {
         all.holds(20, "BAD.", ClipSentences::thinBad);
     }
 
-    private static void keysAre(Due due, String call, BoneSteps x, int... keys) {
-        due.is(call + ", count(4)", x.count(4), keys.length);
-        for (int k = 0; k < keys.length; k++) {
-            due.is(call + ", key(" + k + ")", x.key(k), keys[k]);
-        }
-        due.is(call + ", no KEY more", x.key(keys.length), -2);
-    }
-
     /** Packs a CLIP of one BONE's TURNS. */
     private static void packs(Due due, int m, int[] turns, int... keys) {
         BoneSteps x = Scene.clipOf(turns);
         String call = Arrays.toString(turns) + " with " + m;
         due.is(call, x.pack(0, m), keys.length);
-        keysAre(due, call, x, keys);
+        Scene.keysAre(due, call, x, keys);
     }
 
     private static int[] row(int... turns) {
@@ -565,7 +557,7 @@ final class ClipSentences {
         BoneSteps x = Scene.clipOf(0, 9, 0);
         for (int clip = 1; clip < 6; clip++) {
             due.is("CLIP " + clip + " has no FRAMES", x.pack(clip, 18), 0);
-            keysAre(due, "no FRAMES", x);
+            Scene.keysAre(due, "no FRAMES", x);
         }
         due.is("with 0", x.pack(0, 0), 3);
         due.is("with 18", x.pack(0, 18), 2);
@@ -586,18 +578,18 @@ final class ClipSentences {
         BoneSteps x = Scene.clipOf(0, 9, 0, 5);
         x.frame(1);
         x.pack(0, 0);
-        keysAre(due, "the first pack()", x, 0, 1, 2, 3);
+        Scene.keysAre(due, "the first pack()", x, 0, 1, 2, 3);
         due.is("refused", x.pack(0, 19), -2);
         due.is("refused", x.thin(6, 0), -2);
-        keysAre(due, "refusals tell nothing", x, 0, 1, 2, 3);
+        Scene.keysAre(due, "refusals tell nothing", x, 0, 1, 2, 3);
         x.pack(1, 0);
-        keysAre(due, "the latest pack()", x, 0);
+        Scene.keysAre(due, "the latest pack()", x, 0);
         x.thin(0, 7);
-        keysAre(due, "thin(), by the numbers that FRAMES had", x, 0, 1, 3);
+        Scene.keysAre(due, "thin(), by the numbers that FRAMES had", x, 0, 1, 3);
         x.clear(0);
-        keysAre(due, "clear() leaves them", x, 0, 1, 3);
+        Scene.keysAre(due, "clear() leaves them", x, 0, 1, 3);
         x.pack(0, 0);
-        keysAre(due, "of an empty CLIP", x);
+        Scene.keysAre(due, "of an empty CLIP", x);
     }
 
     private static void keyBad(Due due) {

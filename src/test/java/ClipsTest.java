@@ -22,17 +22,6 @@ public final class ClipsTest {
         due.end();
     }
 
-    /** One BONE that may have every TURN, with a FRAME in CLIP 0 for each of the TURNS. */
-    private static BoneSteps clipOf(int... turns) {
-        BoneSteps x = new BoneSteps();
-        x.bone(-1, 1, 0, 35);
-        for (int t : turns) {
-            x.turn(0, t);
-            x.frame(0);
-        }
-        return x;
-    }
-
     private static void frame() {
         due.promise(11, "frame");
         BoneSteps x = new BoneSteps();
@@ -57,7 +46,7 @@ public final class ClipsTest {
 
     private static void clear() {
         due.promise(12, "clear");
-        BoneSteps x = clipOf(1, 2, 3);
+        BoneSteps x = Scene.clipOf(1, 2, 3);
         x.frame(4);
         due.is("clear(0)", x.clear(0), 3);
         due.is("clear(0) again", x.clear(0), 0);
@@ -121,7 +110,7 @@ public final class ClipsTest {
             {2, 35, 100, 35}, {20, 1, 99, 0}, {20, 1, 100, 1}, {0, 1, 99, 0}, {1, 0, 99, 1}
         };
         for (int[] row : rows) {
-            BoneSteps x = clipOf(row[1]);
+            BoneSteps x = Scene.clipOf(row[1]);
             x.turn(0, row[0]);
             String call = "TURN " + row[0] + " and " + row[1] + " by " + row[2];
             due.is(call, x.blend(0, 0, row[2], 1), 1);
@@ -169,7 +158,7 @@ public final class ClipsTest {
     }
 
     private static void blendRefused() {
-        BoneSteps x = clipOf(7);
+        BoneSteps x = Scene.clipOf(7);
         x.turn(0, 0);
         due.is("w -1", x.blend(0, 0, -1, 1), -2);
         due.is("w 101", x.blend(0, 0, 101, 1), -2);
@@ -186,7 +175,7 @@ public final class ClipsTest {
 
     private static void add() {
         due.promise(16, "add");
-        BoneSteps x = clipOf(3, 33, 21);
+        BoneSteps x = Scene.clipOf(3, 33, 21);
         x.turn(0, 0);
         due.is("3 less 33 is 6", x.add(0, 0, 1), 0);
         due.is("the TURN", x.about(0, 4), 6);
@@ -220,7 +209,7 @@ public final class ClipsTest {
     }
 
     private static void addRefused() {
-        BoneSteps x = clipOf(3, 5);
+        BoneSteps x = Scene.clipOf(3, 5);
         due.is("FRAME 2", x.add(0, 2, 0), -2);
         due.is("less FRAME 2", x.add(0, 0, 2), -2);
         due.is("FRAME -1", x.add(0, -1, 0), -2);
@@ -258,40 +247,32 @@ public final class ClipsTest {
         due.is("like(0, 0, -1, 0)", x.like(0, 0, -1, 0), -2);
     }
 
-    private static void keysAre(String call, BoneSteps x, int... keys) {
-        due.is(call + ", count(4)", x.count(4), keys.length);
-        for (int k = 0; k < keys.length; k++) {
-            due.is(call + ", key(" + k + ")", x.key(k), keys[k]);
-        }
-        due.is(call + ", no key more", x.key(keys.length), -2);
-    }
-
     private static void pack() {
         due.promise(18, "pack");
-        BoneSteps x = clipOf(0, 2, 4, 6, 6, 6);
+        BoneSteps x = Scene.clipOf(0, 2, 4, 6, 6, 6);
         due.is("exactly", x.pack(0, 0), 4);
-        keysAre("exactly", x, 0, 2, 3, 5);
+        Scene.keysAre(due, "exactly", x, 0, 2, 3, 5);
         // To FRAME 3 by 33 and 66 it is 1 and 3, a miss of 1; to FRAME 4 by 75 it is 4, a miss of 2.
         due.is("a miss of 1", x.pack(0, 1), 3);
-        keysAre("a miss of 1", x, 0, 3, 5);
+        Scene.keysAre(due, "a miss of 1", x, 0, 3, 5);
         // To FRAME 5 by 60 it is 3, a miss of 3.
         due.is("a miss of 2", x.pack(0, 2), 3);
-        keysAre("a miss of 2", x, 0, 4, 5);
+        Scene.keysAre(due, "a miss of 2", x, 0, 4, 5);
         due.is("a miss of 3", x.pack(0, 3), 2);
-        keysAre("a miss of 3", x, 0, 5);
+        Scene.keysAre(due, "a miss of 3", x, 0, 5);
         due.is("a miss of 18", x.pack(0, 18), 2);
         due.is("the FRAMES stay", x.count(1), 6);
-        x = clipOf(9);
+        x = Scene.clipOf(9);
         due.is("one FRAME", x.pack(0, 0), 1);
-        keysAre("one FRAME", x, 0);
+        Scene.keysAre(due, "one FRAME", x, 0);
         due.is("no FRAMES", x.pack(1, 0), 0);
-        keysAre("no FRAMES", x);
-        x = clipOf(9, 30);
+        Scene.keysAre(due, "no FRAMES", x);
+        x = Scene.clipOf(9, 30);
         due.is("two FRAMES", x.pack(0, 0), 2);
-        keysAre("two FRAMES", x, 0, 1);
-        x = clipOf(34, 0, 2);
+        Scene.keysAre(due, "two FRAMES", x, 0, 1);
+        x = Scene.clipOf(34, 0, 2);
         due.is("over 0", x.pack(0, 0), 2);
-        x = clipOf(0, 35, 0);
+        x = Scene.clipOf(0, 35, 0);
         due.is("a miss below", x.pack(0, 0), 3);
         due.is("a miss below of 1", x.pack(0, 1), 2);
     }
@@ -299,18 +280,18 @@ public final class ClipsTest {
     /** The last FRAME that fits counts, though one before it may not fit. */
     private static void packLastFrameThatFits() {
         // To FRAME 2 by 50 it is 3, a miss of 3; to FRAME 3 by 33 and 66 it is 4 and 9, misses of 2.
-        keysAre("past one that does not fit", clipPacked(2, 0, 6, 7, 15), 0, 3);
-        keysAre("each one", clipPacked(1, 0, 6, 7, 15), 0, 1, 2, 3);
+        Scene.keysAre(due, "past one that does not fit", clipPacked(2, 0, 6, 7, 15), 0, 3);
+        Scene.keysAre(due, "each one", clipPacked(1, 0, 6, 7, 15), 0, 1, 2, 3);
         // To FRAME 4 FRAME 3 is missed by 12, to FRAME 3 FRAME 2 is by 8, to FRAME 2 none is.
-        keysAre("a miss of 12", clipPacked(12, 0, 4, 8, 0, 16), 0, 4);
-        keysAre("a miss of 11", clipPacked(11, 0, 4, 8, 0, 16), 0, 3, 4);
-        keysAre("a miss of 7", clipPacked(7, 0, 4, 8, 0, 16), 0, 2, 3, 4);
+        Scene.keysAre(due, "a miss of 12", clipPacked(12, 0, 4, 8, 0, 16), 0, 4);
+        Scene.keysAre(due, "a miss of 11", clipPacked(11, 0, 4, 8, 0, 16), 0, 3, 4);
+        Scene.keysAre(due, "a miss of 7", clipPacked(7, 0, 4, 8, 0, 16), 0, 2, 3, 4);
         // To FRAME 3 by 33 it is 4, not 5; to FRAME 4 THE SHORT WAY goes back.
-        keysAre("cut", clipPacked(0, 0, 5, 10, 15, 20, 25), 0, 2, 4, 5);
+        Scene.keysAre(due, "cut", clipPacked(0, 0, 5, 10, 15, 20, 25), 0, 2, 4, 5);
     }
 
     private static BoneSteps clipPacked(int m, int... turns) {
-        BoneSteps x = clipOf(turns);
+        BoneSteps x = Scene.clipOf(turns);
         x.pack(0, m);
         return x;
     }
@@ -339,18 +320,18 @@ public final class ClipsTest {
     }
 
     private static void packRefused() {
-        BoneSteps x = clipOf(0, 9, 0);
+        BoneSteps x = Scene.clipOf(0, 9, 0);
         due.is("pack(0, 0)", x.pack(0, 0), 3);
         due.is("m -1", x.pack(0, -1), -2);
         due.is("m 19", x.pack(0, 19), -2);
         due.is("CLIP -1", x.pack(-1, 18), -2);
         due.is("CLIP 6", x.pack(6, 18), -2);
-        keysAre("refusals change nothing", x, 0, 1, 2);
+        Scene.keysAre(due, "refusals change nothing", x, 0, 1, 2);
     }
 
     private static void key() {
         due.promise(19, "key");
-        BoneSteps x = clipOf(0, 9, 0);
+        BoneSteps x = Scene.clipOf(0, 9, 0);
         due.is("before any", x.key(0), -2);
         due.is("count(4) before any", x.count(4), 0);
         x.pack(0, 18);
@@ -366,9 +347,9 @@ public final class ClipsTest {
 
     private static void thin() {
         due.promise(20, "thin");
-        BoneSteps x = clipOf(0, 2, 4, 9, 20);
+        BoneSteps x = Scene.clipOf(0, 2, 4, 9, 20);
         due.is("one went", x.thin(0, 0), 1);
-        keysAre("one went", x, 0, 2, 3, 4);
+        Scene.keysAre(due, "one went", x, 0, 2, 3, 4);
         int[] left = {0, 4, 9, 20};
         due.is("count(1)", x.count(1), 4);
         for (int f = 0; f < left.length; f++) {
@@ -383,11 +364,11 @@ public final class ClipsTest {
         due.is("m -1", x.thin(0, -1), -2);
         due.is("CLIP 6", x.thin(6, 0), -2);
         due.is("CLIP -1", x.thin(-1, 0), -2);
-        keysAre("refusals change nothing", x, 0, 1);
+        Scene.keysAre(due, "refusals change nothing", x, 0, 1);
         due.is("the POSE stays", x.about(0, 4), 20);
         due.is("an empty CLIP", x.thin(3, 0), 0);
-        keysAre("an empty CLIP", x);
-        x = clipOf(0);
+        Scene.keysAre(due, "an empty CLIP", x);
+        x = Scene.clipOf(0);
         for (int f = 1; f < 30; f++) {
             x.turn(0, f % 2 * 9);
             x.frame(0);

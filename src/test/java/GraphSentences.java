@@ -28,13 +28,6 @@ final class GraphSentences {
         all.holds(25, "BAD: also where it was NONE, or has ended.", GraphSentences::stepBad);
     }
 
-    private static void stepsAre(Due due, String call, BoneSteps x, int... frames) {
-        for (int k = 0; k < frames.length; k++) {
-            due.is(call + ", step(" + k + ")", x.step(k), frames[k]);
-        }
-        due.is(call + ", it has ended", x.step(frames.length), -2);
-    }
-
     /** One BONE, CLIP 0 with TURNS 0, 1, .. 29 and JOIN 0, so that none is joined. */
     private static BoneSteps line() {
         BoneSteps x = Scene.oneBone();
@@ -73,7 +66,7 @@ final class GraphSentences {
         }
         x = Scene.clipOf(5, 20, 5);
         due.is("of its own CLIP, on", x.walk(0, 0, 0, 2), 2);
-        stepsAre(due, "on, by the lesser number", x, 0, 1, 2);
+        Scene.stepsAre(due, "on, by the lesser number", x, 0, 1, 2);
         due.is("of its own CLIP, back", x.walk(0, 2, 0, 0), 2);
     }
 
@@ -170,10 +163,10 @@ final class GraphSentences {
         Scene.frames(x, 2, 2, 4);
         Scene.frames(x, 3, 6);
         due.is("three steps for 9", x.walk(0, 0, 3, 0), 9);
-        stepsAre(due, "not two for 10", x, 0, 60, 61, 90);
+        Scene.stepsAre(due, "not two for 10", x, 0, 60, 61, 90);
         x.join(6);
         due.is("one step for 8", x.walk(0, 0, 3, 0), 8);
-        stepsAre(due, "one step for 8", x, 0, 90);
+        Scene.stepsAre(due, "one step for 8", x, 0, 90);
         x.join(2);
         due.is("JOIN 2", x.walk(0, 0, 3, 0), 9);
         x.join(1);
@@ -185,19 +178,19 @@ final class GraphSentences {
         BoneSteps x = Scene.clipOf(0, 1);
         Scene.frames(x, 1, 3);
         due.is("like COST", x.walk(0, 0, 1, 0), 5);
-        stepsAre(due, "the lesser number, though more steps", x, 0, 1, 30);
+        Scene.stepsAre(due, "the lesser number, though more steps", x, 0, 1, 30);
         // The same with the goal in CLIP 0: the lesser number is the goal at once.
         x = Scene.clipOf(3);
         Scene.frames(x, 1, 0, 1);
         due.is("like COST", x.walk(1, 0, 0, 0), 5);
-        stepsAre(due, "the lesser number, and less steps", x, 30, 0);
+        Scene.stepsAre(due, "the lesser number, and less steps", x, 30, 0);
         // They part at the second step: 90, 31 and 90, 32 are like; 31 comes first.
         x = Scene.oneBone();
         Scene.frames(x, 1, 20, 3, 3);
         Scene.frames(x, 3, 0);
         Scene.frames(x, 2, 6);
         due.is("over 31 or 32", x.walk(3, 0, 2, 0), 10);
-        stepsAre(due, "31", x, 90, 31, 60);
+        Scene.stepsAre(due, "31", x, 90, 31, 60);
         // 90, 30, 150 by 4 and 4, or 90, 91, 0, 150 by 1, 3 and 4: the first step decides, though 0 is the least.
         x = Scene.oneBone();
         x.join(2);
@@ -206,10 +199,10 @@ final class GraphSentences {
         Scene.frames(x, 3, 0, 7);
         Scene.frames(x, 5, 4);
         due.is("over 30 or over 91 and 0", x.walk(3, 0, 5, 0), 8);
-        stepsAre(due, "30", x, 90, 30, 150);
+        Scene.stepsAre(due, "30", x, 90, 30, 150);
         x.clear(1);
         due.is("over 91 and 0 alone", x.walk(3, 0, 5, 0), 8);
-        stepsAre(due, "91 and 0", x, 90, 91, 0, 150);
+        Scene.stepsAre(due, "91 and 0", x, 90, 91, 0, 150);
     }
 
     private static void clipsOneBehindTheOther(Due due) {
@@ -220,14 +213,14 @@ final class GraphSentences {
         Scene.frames(x, 2, 3);
         Scene.frames(x, 4, 6);
         due.is("over either", x.walk(5, 0, 4, 0), 10);
-        stepsAre(due, "over CLIP 1", x, 150, 32, 120);
+        Scene.stepsAre(due, "over CLIP 1", x, 150, 32, 120);
         // FRAME 29 of CLIP 0 is number 29, FRAME 0 of CLIP 1 number 30, both of TURN 29.
         x = line();
         Scene.frames(x, 1, 29);
         Scene.frames(x, 2, 31);
         x.join(2);
         due.is("to TURN 27 over either", x.walk(2, 0, 0, 27), 8);
-        stepsAre(due, "over CLIP 0", x, 60, 29, 27);
+        Scene.stepsAre(due, "over CLIP 0", x, 60, 29, 27);
     }
 
     // ---- promises
@@ -298,7 +291,7 @@ final class GraphSentences {
         }
         x.join(100);
         due.is("back, in one step", x.walk(0, 29, 0, 0), 2 + 7);
-        stepsAre(due, "back, in one step", x, 29, 0);
+        Scene.stepsAre(due, "back, in one step", x, 29, 0);
         due.is("the greatest way back", x.walk(0, 18, 0, 0), 20);
     }
 
@@ -306,7 +299,7 @@ final class GraphSentences {
         BoneSteps x = Scene.clipOf(5, 5, 20);
         for (int f = 0; f < 3; f++) {
             due.is("FRAME " + f, x.walk(0, f, 0, f), 0);
-            stepsAre(due, "no step", x, f);
+            Scene.stepsAre(due, "no step", x, f);
             due.is("count(5)", x.count(5), 0);
         }
     }
@@ -348,13 +341,13 @@ final class GraphSentences {
         BoneSteps x = Scene.clipOf(0, 10, 20);
         x.walk(0, 0, 0, 2);
         due.is("refused", x.walk(0, 0, 0, 3), -2);
-        stepsAre(due, "the one before it", x, 0, 1, 2);
+        Scene.stepsAre(due, "the one before it", x, 0, 1, 2);
         due.is("count(5)", x.count(5), 2);
         x.walk(0, 1, 0, 2);
-        stepsAre(due, "the latest", x, 1, 2);
+        Scene.stepsAre(due, "the latest", x, 1, 2);
         x.clear(0);
         x.join(50);
-        stepsAre(due, "as it was told, though its FRAMES went", x, 1, 2);
+        Scene.stepsAre(due, "as it was told, though its FRAMES went", x, 1, 2);
         due.is("count(5), too", x.count(5), 1);
     }
 

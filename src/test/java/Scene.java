@@ -65,6 +65,16 @@ final class Scene {
         return x;
     }
 
+    /** SHEET 0 of a FORM with items 1, 2, .. n. */
+    static BoneSteps counting(int form, int n) {
+        BoneSteps x = new BoneSteps();
+        x.sheet(0, form, n);
+        for (int i = 0; i < n; i++) {
+            x.put(0, form, i, i + 1);
+        }
+        return x;
+    }
+
     /** All things are there: two trees, two CLIPS, KEYS, a walk, three SHEETS of 3, 4 and 5 items and one LOST. */
     static BoneSteps full() {
         BoneSteps x = new BoneSteps();
@@ -90,6 +100,21 @@ final class Scene {
         BoneSteps x = full();
         x.lock(3);
         return x;
+    }
+
+    static void keysAre(Due due, String call, BoneSteps x, int... keys) {
+        due.is(call + ", count(4)", x.count(4), keys.length);
+        for (int k = 0; k < keys.length; k++) {
+            due.is(call + ", key(" + k + ")", x.key(k), keys[k]);
+        }
+        due.is(call + ", no KEY more", x.key(keys.length), BoneSteps.BAD);
+    }
+
+    static void stepsAre(Due due, String call, BoneSteps x, int... frames) {
+        for (int k = 0; k < frames.length; k++) {
+            due.is(call + ", step(" + k + ")", x.step(k), frames[k]);
+        }
+        due.is(call + ", it has ended", x.step(frames.length), BoneSteps.BAD);
     }
 
     /** All that can be seen, by parts; count() 6 comes first, as the look itself makes FINDINGS. */

@@ -104,16 +104,6 @@ final class SheetSentences {
         due.is(call + ", no item more", x.get(s, form, want.length), LEAST);
     }
 
-    /** SHEET 0 of a FORM with items 1, 2, .. n. */
-    private static BoneSteps counting(int form, int n) {
-        BoneSteps x = new BoneSteps();
-        x.sheet(0, form, n);
-        for (int i = 0; i < n; i++) {
-            x.put(0, form, i, i + 1);
-        }
-        return x;
-    }
-
     private static void refuses(Due due, String call, ToLongFunction<BoneSteps> ask, int answer) {
         Scene.refuses(due, call, Scene::full, ask, answer);
     }
@@ -213,7 +203,7 @@ final class SheetSentences {
     }
 
     private static void findIndex(Due due) {
-        BoneSteps x = counting(0, 3);
+        BoneSteps x = Scene.counting(0, 3);
         for (int i : Scene.outside(0, 2)) {
             due.is("item " + i, x.put(0, 0, i, 9), INDEX);
         }
@@ -222,7 +212,7 @@ final class SheetSentences {
 
     private static void findCast(Due due) {
         for (int form = 0; form < 3; form++) {
-            BoneSteps x = counting(form, 3);
+            BoneSteps x = Scene.counting(form, 3);
             for (int other = 0; other < 3; other++) {
                 due.is("FORM " + form + " as " + other, x.put(0, other, 0, 1), form == other ? 1 : CAST);
             }
@@ -232,7 +222,7 @@ final class SheetSentences {
     private static void findStore(Due due) {
         for (int form = 0; form < 3; form++) {
             for (int other = 0; other < 3; other++) {
-                BoneSteps x = counting(form, 3);
+                BoneSteps x = Scene.counting(form, 3);
                 x.sheet(3, other, 3);
                 due.is("FORM " + form + " to " + other, x.copy(0, 0, 3, 0, 1), form == other ? 1 : STORE);
             }
@@ -339,7 +329,7 @@ final class SheetSentences {
     // ---- promises 26 to 29
 
     private static void sheetTells(Due due) {
-        BoneSteps x = counting(0, 5);
+        BoneSteps x = Scene.counting(0, 5);
         due.is("a new row of another FORM", x.sheet(0, 2, 3), 3);
         itemsAre(due, "a new row", x, 0, 2, 0, 0, 0);
         due.is("not of the FORM before", x.put(0, 0, 0, 1), CAST);
@@ -438,7 +428,7 @@ final class SheetSentences {
     }
 
     private static void getTells(Due due) {
-        BoneSteps x = counting(2, 60);
+        BoneSteps x = Scene.counting(2, 60);
         due.is("item 0", x.get(0, 2, 0), 1);
         due.is("item 59", x.get(0, 2, 59), 60);
         due.is("no FINDING", x.count(6), 0);
@@ -471,7 +461,7 @@ final class SheetSentences {
 
     private static void copyTells(Due due) {
         for (int form = 0; form < 3; form++) {
-            BoneSteps x = counting(form, 5);
+            BoneSteps x = Scene.counting(form, 5);
             x.sheet(3, form, 4);
             due.is("the first 2 to the end", x.copy(0, 0, 3, 2, 2), 1);
             itemsAre(due, "the first 2 to the end", x, 3, form, 0, 0, 1, 2);
@@ -484,20 +474,20 @@ final class SheetSentences {
             itemsAre(due, "none", x, 3, form, 2, 3, 4, 5);
             itemsAre(due, "s stays", x, 0, form, 1, 2, 3, 4, 5);
         }
-        BoneSteps x = counting(0, 60);
+        BoneSteps x = Scene.counting(0, 60);
         x.sheet(1, 0, 60);
         due.is("60 items", x.copy(0, 0, 1, 0, 60), 1);
         due.is("the last of them", x.get(1, 0, 59), 60);
     }
 
     private static void copyWithinOne(Due due) {
-        BoneSteps x = counting(1, 6);
+        BoneSteps x = Scene.counting(1, 6);
         due.is("up", x.copy(0, 0, 0, 1, 5), 1);
         itemsAre(due, "up", x, 0, 1, 1, 1, 2, 3, 4, 5);
-        x = counting(1, 6);
+        x = Scene.counting(1, 6);
         due.is("down", x.copy(0, 1, 0, 0, 5), 1);
         itemsAre(due, "down", x, 0, 1, 2, 3, 4, 5, 6, 6);
-        x = counting(1, 6);
+        x = Scene.counting(1, 6);
         due.is("up by 2", x.copy(0, 1, 0, 3, 3), 1);
         itemsAre(due, "up by 2", x, 0, 1, 1, 2, 3, 2, 3, 4);
         due.is("in place", x.copy(0, 0, 0, 0, 6), 1);
@@ -540,7 +530,7 @@ final class SheetSentences {
             String call = "from " + row[0] + " to " + row[1] + ", " + row[2];
             refuses(due, call, x -> x.copy(2, row[0], 2, row[1], row[2]), INDEX);
         }
-        BoneSteps x = counting(0, 5);
+        BoneSteps x = Scene.counting(0, 5);
         x.sheet(1, 0, 3);
         due.is("not so many in t alone", x.copy(0, 0, 1, 0, 4), INDEX);
         due.is("not so many in s alone", x.copy(1, 0, 0, 0, 4), INDEX);
@@ -548,7 +538,7 @@ final class SheetSentences {
     }
 
     private static void poseFromItem(Due due) {
-        BoneSteps x = counting(0, 60);
+        BoneSteps x = Scene.counting(0, 60);
         due.is("no BONES, from item 0", x.pose(0, 0), 0);
         due.is("no BONES, behind the last item", x.pose(0, 60), 0);
         for (int b = 0; b < 10; b++) {
@@ -627,14 +617,14 @@ final class SheetSentences {
         }
         due.isTrue("just so many", Scene.full().pose(1, 0) >= 0);
         due.isTrue("just so many at the end", Scene.full().pose(2, 1) >= 0);
-        BoneSteps x = counting(0, 2);
+        BoneSteps x = Scene.counting(0, 2);
         due.is("no BONES, one behind the last item", x.pose(0, 3), INDEX);
         due.is("no BONES, -1", x.pose(0, -1), INDEX);
     }
 
     private static void writeTells(Due due) {
         for (int form = 0; form < 3; form++) {
-            BoneSteps x = counting(form, 12);
+            BoneSteps x = Scene.counting(form, 12);
             due.is("no BONES", x.write(0, 12), 0);
             due.is("no BONES, nothing comes", x.get(0, form, 11), 12);
             for (int b = 0; b < 10; b++) {
@@ -666,7 +656,7 @@ final class SheetSentences {
         }
         due.is("just so many", Scene.full().write(1, 0), 4);
         due.is("just so many at the end", Scene.full().write(2, 1), 4);
-        BoneSteps x = counting(0, 2);
+        BoneSteps x = Scene.counting(0, 2);
         due.is("no BONES, one behind the last item", x.write(0, 3), INDEX);
         due.is("no BONES, -1", x.write(0, -1), INDEX);
     }

@@ -126,25 +126,16 @@ public final class SheetsTest {
         }
     }
 
-    private static BoneSteps counting(int form, int n) {
-        BoneSteps x = new BoneSteps();
-        x.sheet(0, form, n);
-        for (int i = 0; i < n; i++) {
-            x.put(0, form, i, i + 1);
-        }
-        return x;
-    }
-
     private static void copy() {
         due.promise(30, "copy");
-        BoneSteps x = counting(1, 6);
+        BoneSteps x = Scene.counting(1, 6);
         x.sheet(3, 1, 4);
         due.is("to another", x.copy(0, 1, 3, 0, 3), 1);
         itemsAre("to another", x, 3, 1, 2, 3, 4, 0);
         itemsAre("the first stays", x, 0, 1, 1, 2, 3, 4, 5, 6);
         due.is("up, as they were", x.copy(0, 0, 0, 1, 5), 1);
         itemsAre("up, as they were", x, 0, 1, 1, 1, 2, 3, 4, 5);
-        x = counting(2, 6);
+        x = Scene.counting(2, 6);
         due.is("down, as they were", x.copy(0, 1, 0, 0, 5), 1);
         itemsAre("down, as they were", x, 0, 2, 2, 3, 4, 5, 6, 6);
         due.is("none at the end", x.copy(0, 6, 0, 6, 0), 1);
@@ -154,7 +145,7 @@ public final class SheetsTest {
     }
 
     private static void copyRefused() {
-        BoneSteps x = counting(0, 4);
+        BoneSteps x = Scene.counting(0, 4);
         x.sheet(1, 1, 4);
         x.sheet(2, 0, 2);
         due.is("SHEET 4", x.copy(4, 0, 0, 0, 1), -2);
